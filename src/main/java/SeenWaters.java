@@ -948,9 +948,9 @@ public final class SeenWaters {
             return inReach(m, x, y, far) && firstBlock(m, x, y) == NONE;
         }
 
-        private void lookAt(int m, int x, int y, int far) {
+        private void note(int m, int x, int y, boolean seen) {
             int c = plan.numberOf(x, y);
-            if (canSee(m, x, y, far)) {
+            if (seen) {
                 seers[c] |= 1 << m;
             } else {
                 seers[c] &= ~(1 << m);
@@ -961,7 +961,7 @@ public final class SeenWaters {
             int far = plan.farOn(now.today);
             for (int y = 0; y < plan.height; y++) {
                 for (int x = 0; x < plan.width; x++) {
-                    lookAt(m, x, y, far);
+                    note(m, x, y, canSee(m, x, y, far));
                 }
             }
         }
@@ -982,7 +982,7 @@ public final class SeenWaters {
                 for (int y = overY + 1; y < plan.height; y++) {
                     for (int x = 0; x < plan.width; x++) {
                         if (lineX(m, x, y, overY) == overX) {
-                            lookAt(m, x, y, far);
+                            note(m, x, y, canSee(m, x, y, far));
                         }
                     }
                 }

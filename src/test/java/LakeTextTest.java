@@ -226,6 +226,13 @@ public final class LakeTextTest {
         Due.due("goBack(0)", w.goBack(0), Due.NOT);
         Due.due("goBack(1)", w.goBack(1), Due.NOT);
         Due.due("seed(0)", w.seed(0), 77);
+        Due.tell(w, "lake 2 2;fish 0 0 6;stand 0 1 7;");
+        Due.due("lake() with CELLS that an earlier text told", w.lake(), 4);
+        Due.due("cell(0, 0, 1)", w.cell(0, 0, 1), 6);
+        Due.due("cell(0, 1, 0)", w.cell(0, 1, 0), 7);
+        Due.tell(w, "lake 2 2;");
+        w.lake();
+        Due.due("cell(0, 1, 0) of a lake without it", w.cell(0, 1, 0), 0);
         w.day(2);
         Due.due("lake() of an empty text", w.lake(), 0);
         Due.due("told(0)", w.told(0), 0);

@@ -9,6 +9,7 @@ public final class SightTest {
         leastZBlocks();
         ownCellBlocksNot();
         mist();
+        eachCallLooks();
         laws();
         freeCells();
         refusals();
@@ -143,6 +144,27 @@ public final class SightTest {
         Due.due("sees(0, 0, 2)", wide.sees(0, 0, 2), 0);
         wide.day(1);
         Due.due("sees(0, 0, 2) without mist", wide.sees(0, 0, 2), 1);
+    }
+
+    /** Each call looks for itself: none of them hangs on what an earlier one saw. */
+    private static void eachCallLooks() {
+        String text = "lake 1 2;door 0 0 0;stand 0 0 9;";
+        Due.due("cell(0, 0, 2) first", Due.lakeOf(text).cell(0, 0, 2), 1);
+        Due.due("cell(0, 0, 3) first", Due.lakeOf(text).cell(0, 0, 3), 1);
+        Due.due("man(0, 5) first", Due.lakeOf(text).man(0, 5), 1);
+        Due.due("man(0, 6) first", Due.lakeOf(text).man(0, 6), 1);
+        Due.due("share(0) first", Due.lakeOf(text).share(0), 1);
+        Due.due("free(0) first", Due.lakeOf(text).free(0), 1);
+        Due.due("told(10) first", Due.lakeOf(text).told(10), 1);
+        Due.due("boat(0, 8) first", Due.lakeOf(text).boat(0, 8), 1);
+        Due.due("view(0, 0, 0) first", Due.lakeOf(text).view(0, 0, 0), 1);
+        Due.due("wins(0) first", Due.lakeOf(text).wins(0), 0);
+        Due.due("tree(0, 1, 2) first", Due.lakeOf(text).tree(0, 1, 2), 1);
+        SeenWaters w = Due.lakeOf(text);
+        Due.due("tree(0, 1, 0)", w.tree(0, 1, 0), 0);
+        Due.due("view(0, 0, 0)", w.view(0, 0, 0), 1);
+        Due.due("cell(0, 1, 2) after what was tried", w.cell(0, 1, 2), 0);
+        Due.due("man(0, 6) after what was tried", w.man(0, 6), 1);
     }
 
     private static void laws() {
