@@ -701,12 +701,10 @@ public final class SeenWaters {
         boolean readAll() {
             restart();
             skipBlanks();
-            // A statement takes a byte at least; blanks alone are no empty text: 'lake' is missed at their end.
-            boolean more = length > 0;
-            for (int round = 0; round <= MOST_BYTES && more; round++) {
+            // A statement takes a byte at least, so that there are never more rounds than bytes.
+            for (int round = 0; round < MOST_BYTES && faultKind == 0 && at < length; round++) {
                 readStatement();
                 skipBlanks();
-                more = faultKind == 0 && at < length;
             }
             length = 0;
             return faultKind == 0;

@@ -4,6 +4,7 @@ public final class LakeTextTest {
         newObject();
         feeding();
         soundTexts();
+        blanksAlone();
         misplaced();
         outOfBounds();
         tooMany();
@@ -62,6 +63,9 @@ public final class LakeTextTest {
 
     private static void soundTexts() {
         Due.sound("", 0);
+        Due.sound(" ", 0);
+        Due.sound("   ", 0);
+        Due.sound(" ".repeat(500), 0);
         Due.sound("lake 1 1;", 1);
         Due.sound("lake 12 5;", 60);
         Due.sound("lake 5 12;", 60);
@@ -77,6 +81,25 @@ public final class LakeTextTest {
         Due.sound("lake 1 1;" + " ".repeat(491), 1);
     }
 
+    /** Issue 5: blanks tell nothing, so that they are an empty text: it becomes THE LAKE. */
+    private static void blanksAlone() {
+        SeenWaters w = Due.lakeOf("lake 2 2;door 0 0 0;storey 5 6;");
+        w.keep(0);
+        w.write(0, 0, 0);
+        w.day(2);
+        Due.tell(w, "oops");
+        w.lake();
+        Due.tell(w, "   ");
+        Due.due("lake() of blanks", w.lake(), 0);
+        Due.due("fault() of blanks", w.fault(), Due.NONE);
+        int[] want = {0, 0, 0, 0, 0, 0, Due.NONE, 0, 3, 100, 0};
+        for (int what = 0; what < want.length; what++) {
+            Due.due("told(" + what + ") after blanks", w.told(what), want[what]);
+        }
+        Due.due("goBack(0) after blanks", w.goBack(0), Due.NOT);
+        Due.due("day(1) after blanks", w.day(1), Due.NOT);
+    }
+
     private static String allCells(String word, int width, int height) {
         StringBuilder text = new StringBuilder();
         for (int y = 0; y < height; y++) {
@@ -88,8 +111,6 @@ public final class LakeTextTest {
     }
 
     private static void misplaced() {
-        Due.fault(" ", 1, 1);
-        Due.fault("   ", 1, 3);
         Due.fault("door 0 0 0;", 1, 0);
         Due.fault("  lakes 2 2;", 1, 2);
         Due.fault("lak 2 2;", 1, 0);
@@ -98,6 +119,9 @@ public final class LakeTextTest {
         Due.fault("laKe 2 2;", 1, 0);
         Due.fault("lakeX2 2;", 1, 4);
         Due.fault("5", 1, 0);
+        Due.fault("  ;", 1, 2);
+        Due.fault(" \t", 1, 1);
+        Due.fault(" \0", 1, 1);
         Due.fault(";", 1, 0);
         Due.fault("lake", 1, 4);
         Due.fault("lake ", 1, 5);

@@ -91,7 +91,7 @@ final class PlainWaters {
         Map<String, Integer> most = Map.of("lake", 1, "door", 6, "stand", 30, "fish", 30, "mist", 10, "storey", 1);
         Map<String, Integer> had = new HashMap<>();
         int i = 0;
-        while (i == 0 || all.get(i).kind() != 'e') {
+        while (all.get(i).kind() != 'e') {
             Token word = all.get(i++);
             if (word.kind() != 'w' || !most.containsKey(word.body())) return fails(1, word);
             if (had.isEmpty() && !word.body().equals("lake")) return fails(1, word);
@@ -149,7 +149,7 @@ final class PlainWaters {
         Told lake = new Told();
         faultKind = 0;
         faultAt = NONE;
-        boolean sound = text.isEmpty() || read(lake);
+        boolean sound = read(lake);
         text = "";
         if (!sound) return -10 - faultKind;
         told = lake;

@@ -53,6 +53,9 @@ public final class RandomRunsTest {
         if (random.nextInt(3) == 0) {
             text = spoilt(text);
         }
+        if (random.nextInt(20) == 0) {
+            text = " ".repeat(upTo(9));
+        }
         if (text.length() > 500) {
             text = text.substring(0, 500);
         }
