@@ -1,3 +1,5 @@
+import java.util.List;
+
 /** What the tests share: answers that are due, and lakes told by texts. */
 final class Due {
     static final int NONE = -1;
@@ -5,6 +7,9 @@ final class Due {
     static final int OUTSIDE = -1000000002;
     static final int NOT = -1000000003;
     static final int FULL = -1000000004;
+
+    static final int LEAST = Integer.MIN_VALUE;
+    static final int MOST = Integer.MAX_VALUE;
 
     private static int wrong = 0;
     private static int asked = 0;
@@ -16,6 +21,23 @@ final class Due {
         if (got != want) {
             wrong++;
             System.out.println(call + " answered " + got + ", due is " + want);
+        }
+    }
+
+    /** Two portraits, row by row. */
+    static void alike(String after, List<String> got, List<String> want) {
+        asked++;
+        if (got.equals(want)) {
+            return;
+        }
+        wrong++;
+        System.out.println("not all is as it was after " + after);
+        for (int i = 0; i < Math.max(got.size(), want.size()); i++) {
+            String is = i < got.size() ? got.get(i) : "nothing";
+            String was = i < want.size() ? want.get(i) : "nothing";
+            if (!is.equals(was)) {
+                System.out.println("  " + is + ", due is " + was);
+            }
         }
     }
 
