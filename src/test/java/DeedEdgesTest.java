@@ -224,8 +224,20 @@ public final class DeedEdgesTest {
         }
     }
 
-    /** "then the DAY goes by": its SHARE is that of the view behind the tree that was planted on it. */
+    /** "then the DAY goes by": its SHARE is that of the view behind what was built or planted on it. */
     private static void theDayGoesByLast() {
+        SeenWaters built = Due.lakeOf("lake 1 2;storey 1 0;door 0 0 0;stand 0 0 1;fish 0 1 50;");
+        built.drift(1);
+        Due.due("PURSE of a view that is built", built.man(0, 4), 51);
+        // 9988 left over by 16 is 4, 0, 1: it hides 0, 2 and 0, 3; left over by 5 it is 0, 3, which hides 0, 4.
+        String[] lakes = {"lake 4 4;door 0 0 0;", "lake 1 5;door 0 0 0;"};
+        int[] purses = {14, 4};
+        for (int k = 0; k < lakes.length; k++) {
+            SeenWaters planted = Due.lakeOf(lakes[k]);
+            planted.seed(12345);
+            planted.drift(1);
+            Due.due("PURSE of " + lakes[k], planted.man(0, 4), purses[k]);
+        }
         SeenWaters w = Due.lakeOf("lake 1 2;door 0 0 0;fish 0 1 50;");
         w.seed(12345);
         // 9988 is even: CELL 0, a tree of 7.

@@ -13,6 +13,7 @@ public final class TextEdgesTest {
         numbersOfMists();
         numbersOfStoreys();
         lakeComesFirst();
+        wordsLetterByLetter();
         asTheyCome();
         mostDoors();
         mostStandsAndFish();
@@ -239,6 +240,21 @@ public final class TextEdgesTest {
         Due.fault("lakes 3 2;", 1, 0);
         Due.fault("lak", 1, 0);
         Due.fault("alake 3 2;", 1, 0);
+    }
+
+    /** "a word that cannot": one letter other, one more, one less; at its first letter. */
+    private static void wordsLetterByLetter() {
+        for (String word : WORDS) {
+            String head = word.equals("lake") ? "" : "lake 3 2;";
+            for (int i = 0; i < word.length(); i++) {
+                String before = word.substring(0, i);
+                String behind = word.substring(i + 1);
+                Due.fault(head + before + "x" + behind + " 1 1 1;", 1, head.length());
+                Due.fault(head + before + behind + " 1 1 1;", 1, head.length());
+                Due.fault(head + before + "z" + word.substring(i) + " 1 1 1;", 1, head.length());
+            }
+            Due.fault(head + word + "s 1 1 1;", 1, head.length());
+        }
     }
 
     private static void asTheyCome() {

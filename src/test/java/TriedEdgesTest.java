@@ -13,10 +13,12 @@ public final class TriedEdgesTest {
         weightsOfOneToNinetyNine();
         towersOfFewerThanNine();
         paidByTheseMoves();
+        othersHaveTheirParts();
         stepsOfOneToEight();
         boatStaysOnTheLake();
         boatOnOwnWater();
         storeysNeededOfNone();
+        storeysNeededForCellsThatThereAre();
         storeysNeededAboveNine();
         storeysNeededOfNinetyNine();
         storeysNeededInMist();
@@ -230,6 +232,16 @@ public final class TriedEdgesTest {
         Due.due("STOREYS stay", w.man(1, 2), 0);
     }
 
+    /** A third one SEES 0, 1 as well: by LAW 0 its FISH are parted, be towers asked first or later. */
+    private static void othersHaveTheirParts() {
+        SeenWaters w = Due.lakeOf("lake 1 2;storey 1 1;door 0 9 0;door 0 0 0;door 0 9 0;stand 0 0 1;fish 0 1 12;fish 0 0 0;");
+        towers(w, 0, 1, 6, Due.NONE);
+        towers(w, 0, 1, 6, Due.NONE);
+        // Behind the second one's STOREY each has 4.
+        towers(w, 2, 1, 1, 0);
+        Due.due("share(0)", w.share(0), 6);
+    }
+
     // ---- boats
 
     private static void boat(String lake, int... most) {
@@ -250,6 +262,9 @@ public final class TriedEdgesTest {
         // "of each CELL once": back over 1, 0 for 5, not for 5 and 5.
         boat("lake 3 1;door 1 0 0;fish 1 0 5;fish 0 0 9;fish 2 0 8;", 5, 14, 14, 22, 22, 22, 22, 22);
         boat("lake 2 1;door 0 0 0;fish 0 0 5;fish 1 0 0;", 5, 5, 5, 5, 5, 5, 5, 5);
+        // What is far to the right is more than what is near to the left.
+        boat("lake 12 1;door 2 0 0;fish 0 0 99;fish 1 0 99;fish 2 0 0;fish 3 0 0;fish 4 0 99;fish 5 0 99;fish 6 0 99;"
+            + "fish 7 0 99;fish 8 0 99;fish 9 0 99;", 0, 99, 198, 198, 297, 396, 495, 594);
     }
 
     /** "each step to one beside it (left, right, up, down)": none leads over the lake's side into another row. */
@@ -297,6 +312,13 @@ public final class TriedEdgesTest {
         Due.due("needed(3)", w.needed(3), Due.UNKNOWN);
         Due.due("needed(-1)", w.needed(-1), Due.UNKNOWN);
         Due.due("needed(0) of one CELL", Due.lakeOf("lake 1 1;door 0 0 0;stand 0 0 99;").needed(0), 0);
+    }
+
+    /** From place 1 no line to a CELL that there is goes over the last one of the first row, on either side. */
+    private static void storeysNeededForCellsThatThereAre() {
+        Due.due("needed(0) beside all lines", Due.lakeOf("lake 2 3;door 1 0 0;stand 0 0 9;").needed(0), 0);
+        Due.due("needed(0) beside all lines", Due.lakeOf("lake 4 3;door 1 0 0;stand 3 0 9;").needed(0), 0);
+        Due.due("needed(0) in the last row", Due.lakeOf("lake 2 3;door 1 0 0;stand 0 2 9;stand 1 2 9;").needed(0), 0);
     }
 
     /** "(above 9, too": 99 high asks EYE 198. */
