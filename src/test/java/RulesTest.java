@@ -75,9 +75,22 @@ public final class RulesTest {
                 must(method.getParameterCount() <= 7, "seven parameters: " + method);
                 must(FACE.stream().noneMatch(face -> face.startsWith(method.getName() + "(")), "a public name: " + method);
             }
-            long fields = List.of(one.getDeclaredFields()).stream().filter(field -> !Modifier.isStatic(field.getModifiers())).count();
-            must(fields <= 20, "twenty fields: " + one);
+            fields(one);
         }
+        fields(SeenWaters.class);
+    }
+
+    private static void fields(Class<?> one) {
+        int own = 0;
+        for (Field field : one.getDeclaredFields()) {
+            if (Modifier.isStatic(field.getModifiers())) {
+                boolean plain = Set.of(int.class, long.class, boolean.class, char.class, String.class).contains(field.getType());
+                must(Modifier.isFinal(field.getModifiers()) && plain, "a static field is a constant: " + field);
+            } else {
+                own++;
+            }
+        }
+        must(own <= 20, "twenty fields: " + one);
     }
 
     private static void source(String text) {
@@ -96,6 +109,19 @@ public final class RulesTest {
             must(allowed.contains(calls.group()), "the library: " + calls.group());
         }
         methodLengths(text.split("\n"));
+        makings(code.split("\n"));
+    }
+
+    /** Rows are made in constructors alone, so that no call takes of the one room that all calls share. */
+    private static void makings(String[] lines) {
+        boolean constructs = false;
+        for (String line : lines) {
+            if (line.startsWith("    public ") && line.endsWith("{")) {
+                constructs = line.equals("    public SeenWaters() {");
+            }
+            boolean field = line.matches(" {8}(private )?final .* = new .*;");
+            must(constructs || field || !line.matches(".*\\bnew\\b.*"), "made in a call: " + line.trim());
+        }
     }
 
     private static void methodLengths(String[] lines) {
